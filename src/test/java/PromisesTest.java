@@ -167,7 +167,10 @@ public final class PromisesTest {
         Check.due("the text was b", plain(x, 0), "b");
         Check.due("stages begin anew", x.stage(), 0);
         Check.due("without goal", x.goal(0, 2, true), true);
-        Check.due("without words", x.run(0), -1);
+        Check.due("without words, it fails", x.run(0), -1);
+        for (int i = 0; i < 12; i++) {
+            Check.due("without words", x.use(0, 0), true);
+        }
     }
 
     private static void order() {
@@ -220,12 +223,12 @@ public final class PromisesTest {
         String[] texts = {
             "c", "A", " a", "a b", "ab2c", "2", "'", "a1", "a0", "a22", "a''", "a'2", "a2''", "a2'3",
             "(2a)", "('", ")", "a)", "(a))", "]", ",", "a,b", "(a,b)", "[a]", "[a,b,a]", "[a,b)",
-            "(a]", "[a)", "[2,a]", "[a,'b]", "[(a,b)]", "[a,b]2'2", "()''", "-", "a\u00ff",
+            "a(2)", "a('", "a[2,]", "a2['", "(a]", "[a)", "[2,a]", "[a,'b]", "[(a,b)]", "[a,b]2'2", "()''", "-", "a\u00ff",
         };
         int[] places = {
             0, 0, 0, 1, 3, 0, 0, 1, 1, 2, 2, 2, 3, 3,
             1, 1, 0, 1, 3, 0, 0, 1, 2, 2, 4, 4,
-            2, 2, 1, 3, 3, 7, 3, 0, 1,
+            2, 2, 2, 3, 2, 2, 1, 3, 3, 7, 3, 0, 1,
         };
         for (int i = 0; i < texts.length; i++) {
             reads(x, texts[i], -1 - places[i]);
@@ -650,6 +653,13 @@ public final class PromisesTest {
         Check.due("six rows", y.setUp(0_210, 0_123, 6), 0);
         Check.due("the first of those", plain(y, 0), "abacba");
         Check.due("more than nine rows", y.setUp(0_210, 0_456, 9), -1);
+        StageRows far = new StageRows(7, 2);
+        cycle(far, 0, 0, 1, 2, 3, 4, 5, 6);
+        cycle(far, 1, 0, 1);
+        Check.due("one row, often", far.setUp(0_210, 0_654, 9), 0);
+        Check.due("a four times", plain(far, 0), "a4");
+        Check.due("one row, as often as can be", far.setUp(0_210, 0_106, 1), 1);
+        Check.due("a six times", plain(far, 1), "a6");
         StageRows z = new StageRows(4, 1);
         z.exchange(0, 0, 1);
         Check.due("it can't be", z.setUp(0_210, 0_321, 9), -1);
