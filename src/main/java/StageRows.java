@@ -56,6 +56,8 @@ public final class StageRows {
         words.forget();
         stages.forget();
         reach.forget();
+        // The words that the latest run did are gone too, and others will bear their numbers.
+        doneCount = 0;
         return true;
     }
 

@@ -21,6 +21,7 @@ public final class PromisesTest {
         use();
         run();
         did();
+        didWordsThatAreGone();
         states();
         fails();
         setUpWrong();
@@ -516,6 +517,39 @@ public final class PromisesTest {
         Check.due("it is no run", x.did(1), 1);
         Check.due("a run that does nothing", x.run(1), 0);
         Check.due("did behind it", x.did(0), -1);
+    }
+
+    private static void didWordsThatAreGone() {
+        StageRows x = neighbours();
+        reads(x, "c", 0);
+        reads(x, "a", 1);
+        x.stage();
+        x.goal(0, 0, true);
+        x.goal(0, 2, true);
+        x.use(0, 0);
+        x.use(0, 1);
+        x.act(0);
+        x.act(1);
+        Check.due("run", x.run(0), 2);
+        Check.due("exchange of one place", x.exchange(1, 3, 3), false);
+        Check.noSuch("exchange of no place", () -> x.exchange(1, 0, -1) ? 1 : 0);
+        Check.due("the words stay, did(0)", x.did(0), 0);
+        Check.due("the words stay, did(1)", x.did(1), 1);
+        Check.due("exchange", x.exchange(1, 0, 3), true);
+        Check.due("the words are gone, did(0)", x.did(0), -1);
+        Check.due("the words are gone, did(1)", x.did(1), -1);
+        reads(x, "a", 0);
+        reads(x, "c", 1);
+        Check.due("no run did the new word 0", x.did(0), -1);
+        Check.due("no run did the new word 1", x.did(1), -1);
+        x.stage();
+        x.goal(0, 2, true);
+        x.use(0, 0);
+        x.use(0, 1);
+        x.act(1);
+        Check.due("a run of new words", x.run(0), 1);
+        Check.due("it is told", x.did(0), 1);
+        Check.due("nothing old behind it", x.did(1), -1);
     }
 
     private static void states() {

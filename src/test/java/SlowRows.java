@@ -92,6 +92,7 @@ final class SlowRows {
         goals[move][b] = kept;
         words.clear();
         stages.clear();
+        done = new ArrayList<>();
         return 1L;
     }
 

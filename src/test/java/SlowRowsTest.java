@@ -96,6 +96,7 @@ public final class SlowRowsTest {
             () -> fast.exchange(move, a, b) ? 1 : 0, slow.exchange(move, a, b));
         int other = near(6);
         same("order(" + other + ")", () -> fast.order(other), slow.order(other));
+        same("did(0)", () -> fast.did(0), slow.did(0));
     }
 
     private void readText() {
