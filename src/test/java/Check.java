@@ -6,15 +6,25 @@ final class Check {
 
     private static int checked = 0;
     private static int wrong = 0;
+    private static String within = "";
 
     private Check() {
+    }
+
+    /** What is told before each answer that is not as due, from now on. */
+    static void begin(String name) {
+        within = name;
+    }
+
+    static int count() {
+        return checked;
     }
 
     static void due(String what, long got, long want) {
         checked++;
         if (got != want) {
             wrong++;
-            System.out.println(what + " answered " + got + ", due is " + want);
+            System.out.println(within + what + " answered " + got + ", due is " + want);
         }
     }
 
@@ -26,7 +36,7 @@ final class Check {
         checked++;
         if (!got.equals(want)) {
             wrong++;
-            System.out.println(what + " answered " + got + ", due is " + want);
+            System.out.println(within + what + " answered " + got + ", due is " + want);
         }
     }
 

@@ -1,8 +1,5 @@
 /** Each promise by itself: ordinary inputs, the edges that the document names, wrong inputs. */
-public final class PromisesTest {
-    private static final int LOW = Integer.MIN_VALUE;
-    private static final int HIGH = Integer.MAX_VALUE;
-
+public final class PromisesTest extends Puzzles {
     public static void main(String[] args) {
         newObject();
         exchange();
@@ -28,63 +25,6 @@ public final class PromisesTest {
         setUpFound();
         text();
         Check.end();
-    }
-
-    /** Takes a text and reads it. */
-    private static int read(StageRows x, String text) {
-        for (int i = 0; i < text.length(); i++) {
-            Check.due("unit of " + text, x.unit(text.charAt(i)), true);
-        }
-        return x.read();
-    }
-
-    private static void reads(StageRows x, String text, int due) {
-        Check.due("read " + text, read(x, text), due);
-    }
-
-    /** The word that a text is read as, in plain text. */
-    private static String plain(StageRows x, int word) {
-        StringBuilder all = new StringBuilder();
-        for (int i = 0; i < 200 && x.text(word, i) != -1; i++) {
-            all.append((char) x.text(word, i));
-        }
-        return all.toString();
-    }
-
-    private static void becomes(StageRows x, String text, String due) {
-        Check.due("word of " + text, plain(x, read(x, text)), due);
-    }
-
-    private static String pieces(StageRows x, int places) {
-        StringBuilder all = new StringBuilder();
-        for (int place = 0; place < places; place++) {
-            all.append(x.at(place));
-        }
-        return all.toString();
-    }
-
-    /** Makes a move bring each place of a row to the next one, and the last to the first. */
-    private static void cycle(StageRows x, int move, int... places) {
-        for (int i = 0; i + 1 < places.length; i++) {
-            Check.due("exchange", x.exchange(move, places[i], places[i + 1]), true);
-        }
-    }
-
-    /** Five places; a brings 0 to 1 to 2 to 0, b brings 2 to 3 to 4 to 2. */
-    private static StageRows twoThrees() {
-        StageRows x = new StageRows(5, 2);
-        cycle(x, 0, 0, 1, 2);
-        cycle(x, 1, 2, 3, 4);
-        return x;
-    }
-
-    /** Six moves of seven places, each exchanging neighbours. */
-    private static StageRows neighbours() {
-        StageRows x = new StageRows(7, 6);
-        for (int move = 0; move < 6; move++) {
-            cycle(x, move, move, move + 1);
-        }
-        return x;
     }
 
     private static void newObject() {

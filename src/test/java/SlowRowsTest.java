@@ -82,6 +82,10 @@ public final class SlowRowsTest {
     }
 
     private void same(String call, Check.Call mine, Long want) {
+        // What an object answers behind its 512th call is free.
+        if (calls >= CALLS) {
+            return;
+        }
         calls++;
         String due = want == null ? "ArrayIndexOutOfBoundsException" : want.toString();
         Check.due(name + calls + ": " + call, Check.told(mine), due);
