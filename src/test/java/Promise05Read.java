@@ -274,6 +274,11 @@ final class Promise05Read extends Puzzles {
         becomes(twelves(), "a'a'", "a10");
     }
 
+    @Says("no two side by side with the same letter")
+    static void theSameLetterFromBothSidesOfABracket() {
+        becomeOf("a(a)a", "a3", "(ab)(ba)", "ab2a", "(a(b))(b)", "ab2", "[ab,b]", "aba6b2", "(aba)2", "aba2ba", "a'a'", "a5");
+    }
+
     @Says("what comes to nothing goes, and what stands around it is side by side then")
     static void whatStandsAroundIsPutTogether() {
         becomeOf("ab3a", "a2", "abb'a", "a2", "abccb'a", "a2", "abccb'a'", "", "ca3a4c", "", "cba3a4bc", "cb2c",
