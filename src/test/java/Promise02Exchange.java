@@ -30,7 +30,7 @@ final class Promise02Exchange extends Puzzles {
         Check.due(when + ", did", didAll(x), "0");
     }
 
-    @Says("the goals of two places are exchanged: true")
+    @Says("In a move the goals of two places are exchanged: true")
     static void firstAndLastPlaceOfTheLastMove() {
         for (int places = 2; places <= 7; places++) {
             int last = places - 1;
@@ -44,7 +44,7 @@ final class Promise02Exchange extends Puzzles {
         }
     }
 
-    @Says("the goals of two places are exchanged: true")
+    @Says("In a move the goals of two places are exchanged: true")
     static void theSameTwiceIsAsBefore() {
         StageRows x = new StageRows(2, 1);
         Check.due("exchange(0, 0, 1)", x.exchange(0, 0, 1), true);
@@ -53,7 +53,7 @@ final class Promise02Exchange extends Puzzles {
         Check.due("order", x.order(0), 1);
     }
 
-    @Says("the goals of two places are exchanged: true")
+    @Says("In a move the goals of two places are exchanged: true")
     static void theGoalsNotThePlacesThatLeadThere() {
         StageRows x = new StageRows(3, 1);
         x.exchange(0, 0, 1);
@@ -164,7 +164,7 @@ final class Promise02Exchange extends Puzzles {
         Check.due("two exchanged again", x.states(0), 2);
     }
 
-    @Says("there is no such move")
+    @Says("ArrayIndexOutOfBoundsException: there is no such move")
     static void noSuchMove() {
         for (int moves = 1; moves <= 6; moves++) {
             StageRows x = new StageRows(3, moves);

@@ -61,7 +61,20 @@ final class Promise03Order extends Puzzles {
         Check.due("2, 2 and 3", x.order(5), 6);
     }
 
-    @Says("there is no such move")
+    @Says("A move's ORDER")
+    static void eachMoveHasItsOwn() {
+        StageRows x = new StageRows(7, 6);
+        for (int move = 0; move < 6; move++) {
+            for (int place = 0; place <= move; place++) {
+                x.exchange(move, place, place + 1);
+            }
+        }
+        for (int move = 0; move < 6; move++) {
+            Check.due("order(" + move + ")", x.order(move), move + 2);
+        }
+    }
+
+    @Says("ArrayIndexOutOfBoundsException: there is no such move")
     static void noSuchMove() {
         for (int moves = 1; moves <= 6; moves++) {
             StageRows x = new StageRows(7, moves);

@@ -25,13 +25,13 @@ final class Promise06Length extends Puzzles {
         Check.due("three rows", x.length(1), 3);
     }
 
-    @Says("there is no such word")
+    @Says("ArrayIndexOutOfBoundsException: there is no such word")
     static void noWordYet() {
         StageRows x = neighbours();
         noneOutside("length", 0, x::length);
     }
 
-    @Says("there is no such word")
+    @Says("ArrayIndexOutOfBoundsException: there is no such word")
     static void behindTheLastWord() {
         StageRows x = neighbours();
         for (int words = 1; words <= 4; words++) {
@@ -40,7 +40,7 @@ final class Promise06Length extends Puzzles {
         }
     }
 
-    @Says("there is no such word")
+    @Says("ArrayIndexOutOfBoundsException: there is no such word")
     static void behindThirtyWords() {
         StageRows x = neighbours();
         fillWords(x, 0, "a");
@@ -48,7 +48,7 @@ final class Promise06Length extends Puzzles {
         noneOutside("length", 30, x::length);
     }
 
-    @Says("there is no such word")
+    @Says("ArrayIndexOutOfBoundsException: there is no such word")
     static void afterAWordThatWasRefused() {
         StageRows x = neighbours();
         reads(x, "a)", -2);
@@ -59,7 +59,7 @@ final class Promise06Length extends Puzzles {
         Check.noSuch("length(0)", () -> x.length(0));
     }
 
-    @Says("there is no such word")
+    @Says("ArrayIndexOutOfBoundsException: there is no such word")
     static void afterAnExchange() {
         StageRows x = neighbourWords();
         x.exchange(0, 0, 2);

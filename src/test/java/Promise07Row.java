@@ -82,7 +82,7 @@ final class Promise07Row extends Puzzles {
         Check.due("row(0, 1)", x.row(0, 1), -1);
     }
 
-    @Says("there is no such word")
+    @Says("ArrayIndexOutOfBoundsException: there is no such word")
     static void noSuchWord() {
         StageRows x = neighbours();
         noneOutside("row(n, 0)", 0, n -> x.row(n, 0));
@@ -92,7 +92,7 @@ final class Promise07Row extends Puzzles {
         noneOutside("row(n, 0)", 30, n -> x.row(n, 0));
     }
 
-    @Says("there is no such word")
+    @Says("ArrayIndexOutOfBoundsException: there is no such word")
     static void noSuchWordAndNoSuchRow() {
         StageRows x = neighbours();
         reads(x, "abc", 0);

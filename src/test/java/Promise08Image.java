@@ -88,7 +88,7 @@ final class Promise08Image extends Puzzles {
         Check.due("images", images(x, 0, 5), "13042");
     }
 
-    @Says("there is no such word")
+    @Says("ArrayIndexOutOfBoundsException: there is no such word")
     static void noSuchWord() {
         StageRows x = neighbours();
         noneOutside("image(n, 0)", 0, n -> x.image(n, 0));

@@ -43,7 +43,7 @@ final class Promise09Act extends Puzzles {
         Check.due("pieces", pieces(x, 7), "0123456");
     }
 
-    @Says("there is no such word")
+    @Says("ArrayIndexOutOfBoundsException: there is no such word")
     static void noSuchWord() {
         StageRows x = neighbours();
         noneOutside("act(n)", 0, n -> act(x, n));
@@ -54,7 +54,7 @@ final class Promise09Act extends Puzzles {
         Check.due("pieces", pieces(x, 7), "0123456");
     }
 
-    @Says("there is no such word")
+    @Says("ArrayIndexOutOfBoundsException: there is no such word")
     static void aRefusedActChangesNothing() {
         StageRows x = neighbours();
         reads(x, "ab", 0);
@@ -64,7 +64,7 @@ final class Promise09Act extends Puzzles {
         Check.due("pieces", pieces(x, 7), "1203456");
     }
 
-    @Says("there is no such word")
+    @Says("ArrayIndexOutOfBoundsException: there is no such word")
     static void afterAnExchange() {
         StageRows x = neighbourWords();
         x.act(0);

@@ -44,7 +44,7 @@ final class Promise10Swap extends Puzzles {
         Check.due("pieces", pieces(x, 7), "6123450");
     }
 
-    @Says("there is no such place")
+    @Says("ArrayIndexOutOfBoundsException: there is no such place")
     static void noSuchPlace() {
         for (int places = 2; places <= 7; places++) {
             StageRows x = new StageRows(places, 1);
@@ -54,7 +54,7 @@ final class Promise10Swap extends Puzzles {
         }
     }
 
-    @Says("there is no such place")
+    @Says("ArrayIndexOutOfBoundsException: there is no such place")
     static void aRefusedSwapChangesNothing() {
         StageRows x = new StageRows(5, 1);
         x.swap(1, 2);

@@ -19,7 +19,7 @@ final class Promise11At extends Puzzles {
         Check.due("pieces", pieces(x, 3), "201");
     }
 
-    @Says("there is no such place")
+    @Says("ArrayIndexOutOfBoundsException: there is no such place")
     static void noSuchPlace() {
         for (int places = 2; places <= 7; places++) {
             StageRows x = new StageRows(places, 1);

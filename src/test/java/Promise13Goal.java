@@ -65,7 +65,7 @@ final class Promise13Goal extends Puzzles {
         }
     }
 
-    @Says("there is no such stage")
+    @Says("ArrayIndexOutOfBoundsException: there is no such stage")
     static void noSuchStage() {
         StageRows x = new StageRows(3, 1);
         noneOutside("goal(n, 0, true)", 0, n -> one(x.goal(n, 0, true)));

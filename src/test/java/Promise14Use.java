@@ -80,7 +80,7 @@ final class Promise14Use extends Puzzles {
         Check.due("did", x.did(0), 29);
     }
 
-    @Says("there is no such stage")
+    @Says("ArrayIndexOutOfBoundsException: there is no such stage")
     static void noSuchStage() {
         StageRows x = neighbourWords();
         noneOutside("use(n, 0)", 0, n -> one(x.use(n, 0)));

@@ -40,7 +40,7 @@ final class Promise15Run extends Puzzles {
         Check.due("pieces", pieces(x, 7), "0132456");
     }
 
-    @Says("how many words were done")
+    @Says("A stage is done to what is at all places: how many words were done")
     static void theMostWordsThatCanBe() {
         // One word more for each piece, but the last two come home together.
         StageRows x = withGoal(0, 1, 2, 3, 4, 5, 6);
@@ -165,7 +165,7 @@ final class Promise15Run extends Puzzles {
         Check.due("pieces", pieces(x, 7), "0124356");
     }
 
-    @Says("there is no such stage")
+    @Says("ArrayIndexOutOfBoundsException: there is no such stage")
     static void noSuchStage() {
         StageRows x = new StageRows(3, 1);
         noneOutside("run", 0, x::run);
@@ -175,7 +175,7 @@ final class Promise15Run extends Puzzles {
         }
     }
 
-    @Says("there is no such stage")
+    @Says("ArrayIndexOutOfBoundsException: there is no such stage")
     static void aRefusedRunChangesNothing() {
         StageRows x = withGoal(0);
         x.use(0, 0);

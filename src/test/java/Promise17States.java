@@ -122,7 +122,7 @@ final class Promise17States extends Puzzles {
         Check.due("states(7)", x.states(7), 5040);
     }
 
-    @Says("there is no such stage")
+    @Says("ArrayIndexOutOfBoundsException: there is no such stage")
     static void noSuchStage() {
         StageRows x = new StageRows(3, 1);
         noneOutside("states", 0, x::states);

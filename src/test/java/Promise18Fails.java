@@ -178,7 +178,7 @@ final class Promise18Fails extends Puzzles {
         Check.due("run", x.run(0), 1);
     }
 
-    @Says("there is no such stage")
+    @Says("ArrayIndexOutOfBoundsException: there is no such stage")
     static void noSuchStage() {
         StageRows x = new StageRows(3, 1);
         noneOutside("fails", 0, x::fails);

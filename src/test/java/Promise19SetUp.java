@@ -111,7 +111,7 @@ final class Promise19SetUp extends Puzzles {
         wrongTriple(neighbours(), HERE, 0, 0_011, 0_101, 0_110, 0_100, 0_010, 0_001, 0_666, 0_665, 0_656, 0_566);
     }
 
-    @Says("something stands above three digits")
+    @Says("or something stands above three digits")
     static void aFourthDigit() {
         wrongTriple(neighbours(), HERE, 01_210, 02_210, 07_210, 010_210, 01000, 512 * 256 + HERE, 1 << 30 | HERE, HIGH);
     }
@@ -121,7 +121,7 @@ final class Promise19SetUp extends Puzzles {
         wrongTriple(neighbours(), HERE, -1, -HERE, HERE - 512, LOW, LOW | HERE);
     }
 
-    @Says("told by three digits in base 8, the first one's lowest")
+    @Says("Pieces and places are told by three digits in base 8, the first one's lowest")
     static void thePieceOfADigitComesToThePlaceOfThatDigit() {
         StageRows x = new StageRows(7, 1);
         cycle(x, 0, 0, 1, 2, 3, 4, 5, 6);
@@ -131,7 +131,7 @@ final class Promise19SetUp extends Puzzles {
         finds(x, 0_210, 0_654, 1, "a4");
     }
 
-    @Says("brings three pieces from where they are now to three places")
+    @Says("that brings three pieces from where they are now to three places")
     static void whereThePiecesAreNow() {
         StageRows x = new StageRows(7, 1);
         cycle(x, 0, 0, 1, 2, 3, 4, 5, 6);
@@ -195,14 +195,14 @@ final class Promise19SetUp extends Puzzles {
         finds(x, HERE, 0_102, 9, "a2");
     }
 
-    @Says("at the first row that differs")
+    @Says("of those with as many the one that has, at the first row that differs")
     static void theFirstRowBeforeTheSecond() {
         StageRows x = neighbours();
         finds(x, 0_310, 0_201, 9, "ac");
         finds(x, HERE, 0_123, 6, "abacba");
     }
 
-    @Says("the word with fewest rows")
+    @Says("A SET-UP: the word with fewest rows")
     static void fewerRowsBeforeALesserMove() {
         StageRows x = new StageRows(3, 3);
         cycle(x, 0, 0, 1);
@@ -211,14 +211,14 @@ final class Promise19SetUp extends Puzzles {
         finds(x, HERE, 0_012, 9, "c");
     }
 
-    @Says("the word with fewest rows")
+    @Says("A SET-UP: the word with fewest rows")
     static void oneRowDoneOftenIsOneRow() {
         StageRows x = twelves();
         finds(x, 0_430, 0_361, 1, "a7");
         finds(x, 0_430, 0_362, 1, "a11");
     }
 
-    @Says("the word with fewest rows")
+    @Says("A SET-UP: the word with fewest rows")
     static void severalRowsOfMovesDoneOften() {
         StageRows x = twoThrees();
         finds(x, HERE, 0_031, 9, "ab");
@@ -226,7 +226,7 @@ final class Promise19SetUp extends Puzzles {
         finds(x, HERE, 0_132, 9, "aba");
     }
 
-    @Says("brings three pieces from where they are now to three places")
+    @Says("that brings three pieces from where they are now to three places")
     static void whatWasFoundBeforeDoesNotMatter() {
         StageRows x = new StageRows(6, 1);
         cycle(x, 0, 0, 1, 2);

@@ -75,7 +75,7 @@ final class Promise20Text extends Puzzles {
         }
     }
 
-    @Says("there is no such word")
+    @Says("ArrayIndexOutOfBoundsException: there is no such word")
     static void noSuchWord() {
         StageRows x = neighbours();
         noneOutside("text(n, 0)", 0, n -> x.text(n, 0));
@@ -85,7 +85,7 @@ final class Promise20Text extends Puzzles {
         noneOutside("text(n, 0)", 30, n -> x.text(n, 0));
     }
 
-    @Says("there is no such word")
+    @Says("ArrayIndexOutOfBoundsException: there is no such word")
     static void noSuchWordAndNoSuchByte() {
         StageRows x = neighbours();
         reads(x, "a", 0);
