@@ -1,80 +1,116 @@
+import java.io.IOException;
 import java.lang.reflect.Constructor;
 import java.lang.reflect.Field;
 import java.lang.reflect.Method;
 import java.lang.reflect.Modifier;
+import java.nio.file.Files;
+import java.nio.file.Path;
+import java.util.ArrayList;
 import java.util.HashSet;
+import java.util.List;
 import java.util.Set;
 import java.util.TreeSet;
+import java.util.regex.Matcher;
+import java.util.regex.Pattern;
 
 /** The class has the public face of the document, and nothing else that others can see. */
 public final class FaceTest {
-    private static final String[] METHODS = {
-        "boolean exchange(int,int,int) throws", "int order(int) throws", "boolean unit(int)",
-        "int read()", "int length(int) throws", "int row(int,int) throws",
-        "int image(int,int) throws", "void act(int) throws", "boolean swap(int,int) throws",
-        "int at(int) throws", "int stage()", "boolean goal(int,int,boolean) throws",
-        "boolean use(int,int) throws", "int run(int) throws", "int did(int)",
-        "int states(int) throws", "int fails(int) throws", "int setUp(int,int,int)",
-        "int text(int,int) throws",
-    };
+    private static final Path DOCUMENT = Path.of("../shared/DOC.md");
+    private static final Path SOURCE = Path.of("src/main/java/StageRows.java");
+    private static final Class<?> FACE = StageRows.class;
 
-    public static void main(String[] args) {
-        Class<?> face = StageRows.class;
-        Check.due("public and final", Modifier.toString(face.getModifiers()), "public final");
-        Set<String> seen = new TreeSet<>();
-        Set<String> names = new HashSet<>();
-        for (Method method : face.getDeclaredMethods()) {
-            if (Modifier.isPrivate(method.getModifiers())) {
-                continue;
-            }
-            Check.due(method + " is", Modifier.toString(method.getModifiers()), "public");
-            seen.add(told(method));
-            names.add(method.getName());
-        }
-        Check.due("public methods", seen.toString(), new TreeSet<>(Set.of(METHODS)).toString());
-        hidden(face, names);
-        for (Class<?> inside : face.getDeclaredClasses()) {
-            Check.due(inside + " is static", Modifier.isStatic(inside.getModifiers()), true);
-            Check.due(inside + " is not public", Modifier.isPublic(inside.getModifiers()), false);
-            hiddenNames(inside, names);
-        }
+    public static void main(String[] args) throws IOException {
+        List<String> heads = headsOf(Files.readString(DOCUMENT));
+        Check.due("heads in the document", heads.size(), 20);
+        writtenAsInTheDocument(heads);
+        seenAsInTheDocument(heads);
+        nothingElseIsSeen();
         Check.end();
     }
 
-    private static void hidden(Class<?> face, Set<String> names) {
-        Constructor<?>[] all = face.getDeclaredConstructors();
-        Check.due("constructors", all.length, 1);
-        Check.due("the constructor", all[0].toString(), "public StageRows(int,int)");
-        for (Field field : face.getDeclaredFields()) {
-            Check.due(field + " is private", Modifier.isPrivate(field.getModifiers()), true);
+    /** The heads of the constructor and the methods; each promise tells its own once more. */
+    private static List<String> headsOf(String document) {
+        List<String> heads = new ArrayList<>();
+        Matcher each = Pattern.compile("^    (public [^;]*);$", Pattern.MULTILINE).matcher(document);
+        while (each.find()) {
+            heads.add(each.group(1));
         }
-        for (Method method : face.getDeclaredMethods()) {
-            if (Modifier.isPrivate(method.getModifiers())) {
-                Check.due(method + " has a public one's name", names.contains(method.getName()), false);
+        List<String> ofPromises = new ArrayList<>();
+        Matcher promise = Pattern.compile("^`([^`]*)`:", Pattern.MULTILINE).matcher(document);
+        while (promise.find()) {
+            ofPromises.add("public " + promise.group(1));
+        }
+        Check.due("heads of the promises", ofPromises.toString(), heads.toString());
+        return heads;
+    }
+
+    private static void writtenAsInTheDocument(List<String> heads) throws IOException {
+        String source = Files.readString(SOURCE);
+        Check.due("the class's head", source.contains("\npublic final class StageRows {\n"), true);
+        for (String head : heads) {
+            Check.due(head, source.contains("\n    " + head + " {\n"), true);
+        }
+    }
+
+    private static void seenAsInTheDocument(List<String> heads) {
+        Set<String> due = new TreeSet<>();
+        for (String head : heads) {
+            String types = head.replaceAll("(int|boolean) \\w+([,)])", "$1$2").replace(", ", ",");
+            due.add(types.replace("throws ", "throws java.lang."));
+        }
+        Set<String> seen = new TreeSet<>();
+        for (Method method : FACE.getDeclaredMethods()) {
+            if (!Modifier.isPrivate(method.getModifiers())) {
+                seen.add(method.toString().replace("StageRows.", ""));
             }
         }
+        for (Constructor<?> constructor : FACE.getDeclaredConstructors()) {
+            seen.add(constructor.toString());
+        }
+        Check.due("what is seen", seen.toString(), due.toString());
     }
 
-    private static void hiddenNames(Class<?> inside, Set<String> names) {
+    private static void nothingElseIsSeen() {
+        Check.due("the class", Modifier.toString(FACE.getModifiers()), "public final");
+        Check.due("what it extends", FACE.getSuperclass().getName(), "java.lang.Object");
+        Check.due("what it implements", FACE.getInterfaces().length, 0);
+        Set<String> names = new HashSet<>();
+        for (Method method : FACE.getDeclaredMethods()) {
+            if (!Modifier.isPrivate(method.getModifiers())) {
+                names.add(method.getName());
+            }
+        }
+        for (Field field : FACE.getDeclaredFields()) {
+            Check.due(field + " is private", Modifier.isPrivate(field.getModifiers()), true);
+            staticIsFinal(field);
+        }
+        for (Method method : FACE.getDeclaredMethods()) {
+            if (Modifier.isPrivate(method.getModifiers())) {
+                hasOwnName(method, names);
+            }
+        }
+        for (Class<?> inside : FACE.getDeclaredClasses()) {
+            classInside(inside, names);
+        }
+    }
+
+    private static void classInside(Class<?> inside, Set<String> names) {
+        Check.due(inside + " is static", Modifier.isStatic(inside.getModifiers()), true);
+        Check.due(inside + " is not public", Modifier.isPublic(inside.getModifiers()), false);
         for (Method method : inside.getDeclaredMethods()) {
-            Check.due(method + " has a public one's name", names.contains(method.getName()), false);
+            hasOwnName(method, names);
         }
         for (Field field : inside.getDeclaredFields()) {
-            boolean shared = Modifier.isStatic(field.getModifiers());
-            Check.due(field + " is final if static", !shared || Modifier.isFinal(field.getModifiers()), true);
+            staticIsFinal(field);
         }
     }
 
-    private static String told(Method method) {
-        StringBuilder all = new StringBuilder(method.getReturnType().getName());
-        all.append(' ').append(method.getName()).append('(');
-        for (Class<?> type : method.getParameterTypes()) {
-            all.append(all.charAt(all.length() - 1) == '(' ? "" : ",").append(type.getName());
-        }
-        all.append(')');
-        for (Class<?> type : method.getExceptionTypes()) {
-            all.append(type == ArrayIndexOutOfBoundsException.class ? " throws" : " " + type);
-        }
-        return all.toString();
+    private static void hasOwnName(Method method, Set<String> names) {
+        Check.due(method + " has a public one's name", names.contains(method.getName()), false);
+    }
+
+    private static void staticIsFinal(Field field) {
+        boolean shared = Modifier.isStatic(field.getModifiers());
+        Check.due(field + " is final if static", !shared || Modifier.isFinal(field.getModifiers()), true);
     }
 }
